@@ -26,8 +26,10 @@ final class Machines {
         for (int i = 0; i < states; i++) {
             lines.add("state " + random.nextInt(4));
         }
-        lines.add("begin 0 " + letters("abcd", inputs[0]) + "/ " + letters("pqr", outputs[0]));
-        List<int[]> arcs = arcs(states, inputs, lawful);
+        // Where it begins need not be state 0, nor does its line stand at a place of its own.
+        int begin = random.nextInt(3) == 0 ? random.nextInt(states) : 0;
+        String beginLine = "begin " + begin + " " + letters("abcd", inputs[begin]) + "/ " + letters("pqr", outputs[begin]);
+        List<int[]> arcs = arcs(states, begin, inputs, lawful);
         for (int[] arc : arcs) {
             int up = inputs[arc[1]] & ~inputs[arc[0]];
             int down = inputs[arc[0]] & ~inputs[arc[1]];
@@ -49,13 +51,14 @@ final class Machines {
         for (int i = 0; i < gates; i++) {
             lines.add(gate());
         }
+        lines.add(states + random.nextInt(lines.size() - states + 1), beginLine);
         return String.join(";", lines);
     }
 
-    private List<int[]> arcs(int states, int[] inputs, boolean lawful) {
+    private List<int[]> arcs(int states, int begin, int[] inputs, boolean lawful) {
         List<int[]> arcs = new ArrayList<>();
-        for (int to = 1; to < states; to++) {
-            offer(arcs, random.nextInt(to), to, inputs, lawful);
+        for (int i = 1; i < states; i++) {
+            offer(arcs, (begin + random.nextInt(i)) % states, (begin + i) % states, inputs, lawful);
         }
         int more = random.nextInt(8);
         for (int i = 0; i < more; i++) {

@@ -13,6 +13,10 @@ public final class PlainTest {
         "codings", "coding", "recode", "strike", "add", "undo", "last", "size", "fault", "where", "push", "push",
         "machine", "settles", "harm", "undo", "fewest", "chosen", "walk"};
 
+    /** For rounds in which more ACTS come than are kept. */
+    private static final String[] ACTS = {"recode", "add", "strike", "recode", "add", "strike", "undo", "state", "arc",
+        "gate", "size", "bad"};
+
     private final Random random;
     private final Machines machines;
     private final List<String> log = new ArrayList<>();
@@ -53,11 +57,29 @@ public final class PlainTest {
         for (int round = 0; round < rounds && alike; round++) {
             alike = newMachine();
             int more = 20 + random.nextInt(100);
+            boolean busy = random.nextInt(4) == 0;
             for (int i = 0; i < more && alike; i++) {
-                alike = oneCall(CALLS[random.nextInt(CALLS.length)]);
+                boolean act = busy && random.nextInt(5) != 0;
+                alike = oneCall(act ? ACTS[random.nextInt(ACTS.length)] : CALLS[random.nextInt(CALLS.length)]);
+            }
+            for (int i = 0; i < 14 && busy && alike; i++) {
+                alike = oneCall("undo") && sameParts();
             }
         }
         return alike;
+    }
+
+    private boolean sameParts() {
+        boolean alike = true;
+        for (int i = 0; i < 6 && alike; i++) {
+            alike = same("state " + i, desk.state(i, 0), plain.state(i, 0));
+        }
+        for (int i = 0; i < 8 && alike; i++) {
+            for (int what = 0; what < 7 && alike; what++) {
+                alike = same("arc " + i + " " + what, desk.arc(i, what), plain.arc(i, what));
+            }
+        }
+        return alike && same("gates", desk.size(2), plain.size(2));
     }
 
     private boolean newMachine() {

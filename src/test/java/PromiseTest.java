@@ -28,6 +28,7 @@ public final class PromiseTest {
         faults();
         places();
         bads();
+        badAgain();
         badPlaces();
         states();
         arcs();
@@ -162,6 +163,15 @@ public final class PromiseTest {
         faultless("state 3;begin 0 d c b a/r q p");
         faultless("state0;begin00/;arc0 0a+b-c+d-/p+q-r+;gate p a b'c d's t'");
         faultless("state 0;arc 0 0 a + / p -;begin 0 / ");
+        faultless("state 0;begin 0 /;gate t t s d c b a");
+        faulty("gate t t s d c b a a", 3, 19);
+        faulty("state 0;begin 0 a b c d a /", 3, 24);
+        faulty("state 0;begin 0 / p q r r", 3, 24);
+        faulty("state 0;arc 0 0 a+ b+ c+ d+ d+ /", 3, 28);
+        faulty("state 0;begin 0 z /", 1, 16);
+        faulty("gate z", 1, 5);
+        faulty("ttate 0", 1, 0);
+        faulty("000 0", 1, 0);
         faulty("", 1, 0);
         faulty("    ", 1, 4);
         faulty(";", 1, 0);
@@ -275,6 +285,7 @@ public final class PromiseTest {
         {"state 0;state 1;begin 0 /;arc 0 1 a+ / p+;arc 0 1 a+ / q+", 2, 1},
         {"state 0;begin 0 /;arc 0 0 a+ /", 2, 0},
         {"state 0;state 1;state 2;begin 0 /;arc 0 2 a+ /", 3, 1},
+        {"state 0;state 1;begin 1 /;arc 0 1 a+ /", 3, 0},
         {"state 0;state 1;state 2;begin 0 /;arc 1 2 a+ /", 3, 1},
         {"state 0;state 1;state 2;begin 0 /;arc 0 1 a+ b+ /;arc 0 2 b+ /", 4, 1},
         {"state 0;state 1;begin 0 /;arc 0 1 a+ / p+;arc 0 1 a+ / p+", 4, 0},
@@ -301,6 +312,16 @@ public final class PromiseTest {
         }
         BurstDesk empty = new BurstDesk();
         refused("6: no machine", empty, empty.bad(), 1);
+    }
+
+    private static void badAgain() {
+        BurstDesk desk = desk(WAYS);
+        Texts.machine(desk, "state 0;state 1;begin 1 /");
+        told("6: nothing stays of the machine ahead", desk, desk.bad(), 3);
+        told("7: nothing stays", desk, desk.badAt(), 0);
+        told("8: nothing stays", desk, desk.state(0, 1), -2);
+        Texts.machine(desk, BOTH);
+        told("6: lawful again", desk, desk.bad(), 0);
     }
 
     private static void badPlaces() {
@@ -530,7 +551,26 @@ public final class PromiseTest {
         guarded("21", (d, f) -> d.fewest(f));
     }
 
+    /** FEWEST by its row of PRIMES, where PRIMES between them would hold some of what is required, too. */
+    private static void row(String text, int f, String formula, int... chosen) {
+        BurstDesk desk = desk(text);
+        due("22: formula", Texts.formula(desk, f), formula);
+        for (int i = 0; i < chosen.length; i++) {
+            told("22: " + formula + " " + i, desk, desk.chosen(f, i), chosen[i]);
+        }
+        refused("22: behind " + formula, desk, desk.chosen(f, chosen.length), 1);
+    }
+
     private static void chosenPrimes() {
+        row("state 3;state 0;state 0;begin 0 c /;arc 0 1 a+ c- /;arc 1 2 a- c+ /", 3, "a's+cs", 0, 3);
+        row("state 0;state 3;state 3;begin 0 b /;arc 1 2 a- b- /;arc 0 1 a+ d+ /", 3, "ad+s", 0, 3);
+        row("state 1;state 2;state 3;begin 0 c /;arc 1 2 a- /;arc 0 1 a+ /", 4, "a+t", 0, 5);
+        row("state 3;state 0;state 0;begin 0 b c / p;arc 0 1 a+ b- c- / p-;arc 1 2 a- b+ c+ /", 0,
+                "a's+bs+cs", 0, 2, 4);
+        row("state 3;state 0;state 3;begin 0 / q;arc 0 1 b+ c+ d+ /;arc 1 2 b- c- /", 3,
+                "b'c'+b's+c's+d'", 1, 2, 4, 6);
+        row("state 3;state 0;state 2;begin 0 b c d / q;arc 1 2 b+ c+ d+ /;arc 0 1 a+ b- c- d- / p+ q-", 4,
+                "a'+bcd+bs+cs+ds", 0, 1, 2, 4, 6);
         BurstDesk desk = desk(BOTH);
         for (int i = 0; i < 3; i++) {
             told("22: p " + i, desk, desk.chosen(0, i), i);
@@ -592,6 +632,10 @@ public final class PromiseTest {
         told("26: not from its beginning", desk, desk.harm(0, 0), 4);
         desk.add(0, Texts.cube("1-----"));
         told("26: where it has to be 0", desk, desk.harm(0, 0), 5);
+        BurstDesk far = desk(FALL + ";gate p c;gate p a';gate p b'");
+        told("26: a gate far from the burst", far, far.harm(0, 0), 0);
+        BurstDesk first = desk(FALL + ";gate p a b");
+        told("26: the first gate", first, first.harm(0, 0), 7);
         refused("26: no such arc", desk, desk.harm(0, 1), 1);
         refused("26: arc below 0", desk, desk.harm(0, -1), 1);
         guarded("26", (d, f) -> d.harm(f, 0) == -1 && d.size(1) == 0 && d.size(0) == 2 ? refusedArc(d, f) : d.harm(f, 0));
@@ -693,6 +737,17 @@ public final class PromiseTest {
         refused("30: no fewest", none, none.settles(0), 5);
         refused("31: no fewest", none, none.settled(0), 5);
         refused("30: arc ahead of it", none, none.settles(3), 1);
+        BurstDesk noT = desk("state 0;state 2;state 2;state 0;begin 0 /;arc 1 3 c+ d+ /;arc 0 2 c+ /;arc 2 1 c- /");
+        due("30: s has", noT.fewest(3), 0);
+        due("30: t hasn't", noT.fewest(4), -2);
+        refused("30: t has none", noT, noT.settles(0), 5);
+        refused("31: t has none", noT, noT.settled(0), 5);
+        BurstDesk noS = desk("state 2;state 3;state 3;state 0;begin 0 d /;arc 1 3 d- /;arc 2 3 a+ d- /;arc 1 2 a- /;"
+                + "arc 0 1 a+ / q+");
+        due("30: s hasn't", noS.fewest(3), -2);
+        due("30: t has", noS.fewest(4) >= 0, true);
+        refused("30: s has none", noS, noS.settles(0), 5);
+        refused("31: s has none", noS, noS.settled(0), 5);
         BurstDesk lacking = desk(LACKING);
         told("30: p's fewest isn't asked for", lacking, lacking.settles(0), 1);
         BurstDesk bad = desk("state 0;state 1;begin 0 a /;arc 0 1 a+ /");
@@ -736,6 +791,13 @@ public final class PromiseTest {
                 told("33: what " + what, desk, desk.walk(what), row[what + 1]);
             }
         }
+        BurstDesk back = desk(BOTH);
+        back.push(0);
+        back.push(1);
+        back.push(1);
+        told("33: an input that fell", back, back.walk(1), 1);
+        told("33: it is changed", back, back.walk(3), 2);
+        told("33: outputs stay", back, back.walk(2), 1);
         refused("33: another what", desk, desk.walk(4), 1);
         refused("33: below 0", desk, desk.walk(-1), 1);
         restarts("recode", d -> d.recode(0, 0));
@@ -792,6 +854,8 @@ public final class PromiseTest {
         told("34: p and s", desk, desk.shown(), 9);
         desk.push(1);
         told("34: on the way back", desk, desk.shown(), 9);
+        desk.push(0);
+        told("34: back", desk, desk.shown(), 0);
         BurstDesk alone = desk(ALONE);
         told("34: p, s, t", alone, alone.shown(), 25);
         BurstDesk lacking = desk(LACKING);
@@ -821,6 +885,9 @@ public final class PromiseTest {
         BurstDesk twin = desk(TWIN);
         due("35: bad by 5", twin.bad(), 5);
         told("35: one code", twin, twin.codings(1), 0);
+        BurstDesk outputs = desk("state 0;state 0;state 0;begin 0 /;arc 0 1 a+ b+ / p+;arc 1 2 b- /");
+        // Only p clashes where all codes are one; with two, the last may not be on the first one's way.
+        told("35: outputs alone clash", outputs, outputs.codings(1), 0);
         BurstDesk none = desk(NO_CODES);
         told("35: none at all", none, none.codings(4), 0);
         BurstDesk bad = desk("state 0;state 1;begin 0 /");
@@ -850,6 +917,14 @@ public final class PromiseTest {
         BurstDesk fall = desk(FALL);
         told("36: all alike", fall, fall.coding(4, 1), 0);
         told("35: of one", fall, fall.codings(1), 1);
+        // States 0, 3, 1 want three codes; the way from 3 to 1 may not meet that of 0, which can't be 0 then.
+        BurstDesk ring = desk("state 2;state 2;state 3;state 3;arc 1 2 a+ /;arc 0 3 a+ /;arc 3 1 a- / p+;begin 0 /");
+        told("35: two ways of three codes", ring, ring.codings(3), 2);
+        int[] first = {1, 2, 2, 0};
+        for (int i = 0; i < 4; i++) {
+            told("36: of three codes, " + i, ring, ring.coding(3, i), first[i]);
+        }
+        told("35: no way of two", ring, ring.codings(2), 0);
         // An arc struck out frees the codes.
         both.strike(1);
         told("35: without the way back", both, both.codings(1), 1);
@@ -861,9 +936,12 @@ public final class PromiseTest {
 
     private static void recodes() {
         BurstDesk desk = desk(BOTH);
+        due("37: p ahead of it", Texts.formula(desk, 0), "ab+as+bs");
+        due("37: t ahead of it", Texts.formula(desk, 4), "0");
         told("37: the one it had", desk, desk.recode(1, 2), 1);
         told("37: its code", desk, desk.state(1, 0), 2);
         due("37: another formula", Texts.formula(desk, 0), "ab+at+bt");
+        due("37: another one of t", Texts.formula(desk, 4), "ab+at+bt");
         told("37: the same", desk, desk.recode(1, 2), 2);
         due("37: it counts", desk.size(3), 2);
         told("37: like the other", desk, desk.recode(1, 0), 2);
@@ -954,6 +1032,26 @@ public final class PromiseTest {
         told("40: the first code", desk, desk.state(0, 0), 0);
         due("40: the formula", Texts.formula(desk, 0), "ab+as+bs");
         due("40: none left", desk.undo(), false);
+        BurstDesk mixed = desk(WAYS);
+        mixed.strike(1);
+        mixed.strike(0);
+        for (int i = 0; i < 11; i++) {
+            mixed.recode(i % 3, i % 4);
+        }
+        for (int i = 0; i < 11; i++) {
+            due("40: a code back", mixed.undo(), true);
+        }
+        for (int i = 0; i < 3; i++) {
+            told("40: all codes as they were", mixed, mixed.state(i, 0), i);
+        }
+        due("40: the second arc back", mixed.undo(), true);
+        for (int i = 0; i < 3; i++) {
+            told("40: by it no code changes", mixed, mixed.state(i, 0), i);
+        }
+        told("40: it is the first", mixed, mixed.arc(0, 2), 3);
+        told("40: the way back behind it", mixed, mixed.arc(1, 3), 3);
+        due("40: the first that went stays away", mixed.undo(), false);
+        due("40: two arcs", mixed.size(1), 2);
         BurstDesk empty = new BurstDesk();
         due("40: no machine", empty.undo(), false);
         due("40: no machine, trouble", empty.trouble(), 1);
@@ -962,6 +1060,7 @@ public final class PromiseTest {
     private static void lasts() {
         BurstDesk desk = desk(WAYS);
         due("41: the first", desk.last(0), 2);
+        due("41: state 0", desk(ALONE).last(0), 0);
         throwsNone(desk, 1);
         throwsNone(desk, -1);
         throwsNone(desk, Integer.MIN_VALUE);
