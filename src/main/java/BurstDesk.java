@@ -800,7 +800,17 @@ public final class BurstDesk {
             step();
             boolean more = true;
             for (int line = 0; line <= length && more; line++) {
-                readLine();
+                if (isWord("state")) {
+                    readState();
+                } else if (isWord("begin")) {
+                    readBegin();
+                } else if (isWord("arc")) {
+                    readArc();
+                } else if (isWord("gate")) {
+                    readGate();
+                } else {
+                    fail(FORM);
+                }
                 more = fault == 0 && isSign(';');
                 if (more) {
                     step();
@@ -884,20 +894,6 @@ public final class BurstDesk {
                 value = value * 10 + byteAt(i) - '0';
             }
             return value;
-        }
-
-        private void readLine() {
-            if (isWord("state")) {
-                readState();
-            } else if (isWord("begin")) {
-                readBegin();
-            } else if (isWord("arc")) {
-                readArc();
-            } else if (isWord("gate")) {
-                readGate();
-            } else {
-                fail(FORM);
-            }
         }
 
         private void readState() {
@@ -1451,16 +1447,8 @@ public final class BurstDesk {
             into.want(valuesIn(codes, to), Cubes.pointsLike(end, end ^ pointIn(codes, to)));
         }
 
-        boolean isOneBefore(int f, int arc) {
-            return (pick(valuesBefore, arc) >> f & 1) != 0;
-        }
-
-        boolean isOneThen(int f, int arc) {
-            return (pick(valuesThen, arc) >> f & 1) != 0;
-        }
-
         boolean fallsBy(int f, int arc) {
-            return isOneBefore(f, arc) && !isOneThen(f, arc);
+            return (pick(valuesBefore, arc) & ~pick(valuesThen, arc) & 1 << f) != 0;
         }
 
         long fromPoint(int arc) {
@@ -1478,7 +1466,9 @@ public final class BurstDesk {
         /** Fills foundCubes by one ARC: how many there are. */
         int findRequired(int f, int arc) {
             int count = 0;
-            if (fallsBy(f, arc)) {
+            boolean before = (pick(valuesBefore, arc) & 1 << f) != 0;
+            boolean then = (pick(valuesThen, arc) & 1 << f) != 0;
+            if (before && !then) {
                 int free = machine.burstInputs(arc);
                 for (int input = 0; input < INPUTS; input++) {
                     int bit = 1 << input;
@@ -1487,11 +1477,12 @@ public final class BurstDesk {
                         count++;
                     }
                 }
-            } else if (isOneBefore(f, arc)) {
+            }
+            if (before && then) {
                 place(foundCubes, count, pick(burstCubes, arc));
                 count++;
             }
-            if (isOneThen(f, arc)) {
+            if (then) {
                 place(foundCubes, count, pick(turnCubes, arc));
                 count++;
             }
