@@ -1,6 +1,9 @@
 import java.util.NoSuchElementException;
 
-/** The promises one by one, with answers found by hand from the document. */
+/**
+ * The promises one by one. Answers are found by hand from the document, but for those of the larger machines (rows of
+ * FEWEST with ties, six PRIMES, no COVER, no codes): made-up machines, searched with the class, on which PlainDesk agrees.
+ */
 public final class PromiseTest {
     /** Two inputs rise, an output does; both fall, it falls: p = ab + as + bs. */
     private static final String BOTH = "state 0;state 1;begin 0 /;arc 0 1 a+ b+ / p+;arc 1 0 a- b- / p-";
