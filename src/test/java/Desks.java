@@ -37,6 +37,10 @@ final class Desks {
     /** p is 1 at 000000, and 0 at each of the six POINTS beside it. */
     static final String POINT = "state 0;state 1;state 2;state 0;state 0;state 3;begin 0 / p;arc 0 1 a+ / p-;arc 0 2 b+ / p-;"
             + "arc 0 3 c+ / p-;arc 0 4 d+ / p-;arc 1 5 a- /;arc 2 5 b- /";
+    /** Six STATES, eight ARCS: q and t want five PRIMES of sixteen, r five of twelve. */
+    static final String LARGE = "state 0;state 1;state 3;state 2;state 0;state 2;arc 0 1 b+ / r+;arc 3 4 b- c+ / q-;"
+            + "arc 5 0 c- / p- q- r-;arc 1 2 b- d+ / q+;arc 0 4 a+ c+ d+ /;arc 2 5 c+ d- / p+;begin 0 /;"
+            + "arc 2 3 a+ b+ / r-;arc 3 2 a- b- / r+";
 
     /** One MACHINE for each BAD, 1 .. 6; each has STATES 0, 1 and an ARC. */
     private static final String[] BAD = {

@@ -343,6 +343,27 @@ final class FunctionBounds {
             due.told(ties, "chosen(3, 0)", ties.chosen(S, 0), 3);
             due.told(ties, "chosen(3, 1)", ties.chosen(S, 1), 4);
             due.is("its formula", Texts.formula(ties, S), "ab'+ad");
+            // t is 0 at 001010 alone: PRIMES are a, b, c', d, s', t. Of what is REQUIRED 1010-- lies in a, 0010-1 in t, and
+            // -01001 in s', too, which has a lower number than t but leaves 0010-1 open: it is in no COVER of two.
+            BurstDesk between = Desks.of("state 1;state 2;state 3;begin 0 c /;arc 1 2 a- /;arc 0 1 a+ /");
+            due.told(between, "primes(4)", between.primes(T), 6);
+            due.told(between, "needed(4)", between.needed(T), 2);
+            due.told(between, "fewest(4)", between.fewest(T), 2);
+            due.told(between, "chosen(4, 0)", between.chosen(T, 0), 0);
+            due.told(between, "chosen(4, 1)", between.chosen(T, 1), 5);
+            due.is("its formula", Texts.formula(between, T), "a+t");
+        });
+        Bounds.ofTerm("III", "FEWEST: of all COVERS of 5 at most one of the fewest", due -> {
+            // Made up and searched, not by hand: five of twelve to sixteen PRIMES, two of them needed by no REQUIRED CUBE
+            // alone. PlainDesk, which tries all COVERS, answers the same.
+            BurstDesk large = Desks.of(Desks.LARGE);
+            int[][] rows = {{14}, {1, 3, 7, 12, 15}, {0, 2, 3, 5, 6}, {0, 2, 8, 11}, {1, 3, 7, 12, 15}};
+            for (int f = 0; f < 5; f++) {
+                due.told(large, "fewest(" + f + ")", large.fewest(f), rows[f].length);
+                for (int i = 0; i < rows[f].length; i++) {
+                    due.told(large, "chosen(" + f + ", " + i + ")", large.chosen(f, i), rows[f][i]);
+                }
+            }
         });
         Bounds.of(21, "NONE: 1", due -> noFunction(due, (d, f) -> d.fewest(f)));
         Bounds.of(21, "NONE: 1; 5.", due -> somethingBad(due, (d, f) -> d.fewest(f)));

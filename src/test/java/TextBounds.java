@@ -209,6 +209,20 @@ final class TextBounds {
             foundOf(due, desk, 1, 6, 2, 2, 2, 5);
             due.told(desk, "glitch(0): not by an ARC of the one ahead", desk.glitch(0), -2);
         });
+        Bounds.of(3, "are the MACHINE from now on", due -> {
+            // Made up and searched, not by hand: what is left of a FUNCTION looked at ahead could stand for a PRIME of r here.
+            BurstDesk desk = Desks.of("state 0;state 0;state 0;begin 0 a b c / p r;arc 2 1 c+ / r+;arc 0 1 b- d+ / p- q+;"
+                    + "arc 1 2 c- / r-");
+            for (int f = 0; f < 5; f++) {
+                due.is("fewest(" + f + ") of the one ahead is told", desk.fewest(f) >= 0, true);
+            }
+            Texts.machine(desk, "state 0;state 3;state 1;begin 0 a c / p r;arc 2 0 b- / p+ r+;arc 1 2 c+ d- / p- q-;"
+                    + "arc 0 1 b+ c- d+ / q+ r-;arc 2 1 c- d+ / p+ q+");
+            int[] fewest = {5, 3, 3, 2, 3};
+            for (int f = 0; f < 5; f++) {
+                due.told(desk, "fewest(" + f + ")", desk.fewest(f), fewest[f]);
+            }
+        });
         Bounds.of(3, "(nothing to undo)", due -> {
             BurstDesk desk = Desks.of(Desks.BOTH);
             for (int i = 0; i < 13; i++) {
